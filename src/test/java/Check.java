@@ -94,6 +94,13 @@ final class Check {
         holds(name + " changed something", picture(x).equals(before));
     }
 
+    /** A text that has a fault gives no mesh. */
+    static void refusedIfFaulty(String text, MeshParents x) {
+        if (x.fault() != NONE) {
+            refused("mesh() of " + text, x, o -> o.mesh(), LATE);
+        }
+    }
+
     static void changesNothing(String name, MeshParents x, Call call, long want) {
         refused(name, x, call, want);
     }
