@@ -72,6 +72,14 @@ final class PredictTest {
         Check.due("still() until the leaf notices", z.still(), 9);
         z.round(1);
         Check.due("still() a round later", z.still(), 8);
+        // the leaf hears of the greater cost of its parent in the tenth round from now: n = 0 is still right
+        MeshParents late = Check.withMesh("M0g0rrl90k01001k02001k13001k23002");
+        late.round(18);
+        Check.due("the leaf's parent", late.node(3, 3), 1);
+        late.lose(0, true, 9);
+        Check.due("ahead(9, 3, 3)", late.ahead(9, 3, 3), 1);
+        Check.due("ahead(10, 3, 3)", late.ahead(10, 3, 3), 2);
+        Check.due("still() of ten rounds", late.still(), 0);
         Check.due("still() of nothing", new MeshParents().still(), 0);
     }
 
@@ -137,7 +145,7 @@ final class PredictTest {
         for (long row : right) {
             judged(x, 1, row, Check.NONE);
         }
-        long[] wrong = {0, 10, 100, 1000, 10000, 20100, 23000, 29000, 31000, 33000, 35000, 39900, 40000, 40200, 41100, 45000,
+        long[] wrong = {0, 10, 100, 1000, 10000, 20100, 23000, 29000, 31000, 33000, 35000, 39900, 40000, 40200, 41100, 41200, 41900, 45000,
             45100, 49000, 50000, 51000, 54000, 55000, 50500, 56900, 60100, 61000, 62900, 65000, 69900, 70100, 71000, 79900, 80000,
             89900, 90000, 99900, 99999, 10110, 10101, 20001, 20010, 30090, 30009, 40101, 40110, 44119, 60001, 64010,
             70001, 70010};
