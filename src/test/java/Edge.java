@@ -41,8 +41,8 @@ final class Edge {
     /** The same, but six observations. */
     static MeshParents withSixObservations() {
         MeshParents x = rich();
-        while (x.about(10) < 6) {
-            x.see(1, x.about(10), 1);
+        for (int n = 2; n < 6; n++) {
+            x.see(1, n, 1);
         }
         return x;
     }

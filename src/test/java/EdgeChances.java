@@ -9,6 +9,8 @@ final class EdgeChances {
         worthAfterTwenty();
         worthOfTheSilent();
         ordersOfGateways();
+        meanIncrease();
+        upperOrNot();
         shareAnswers();
         chanceAfterTwenty();
         chanceOfLinksThatAreUp();
@@ -75,6 +77,30 @@ final class EdgeChances {
             MeshParents x = Check.withMesh(text);
             shareIs(near + " of seven", x, 0, near == 1 ? 2 : near + 1, near == 1 ? 1 : near);
             shareIs(near + " of seven", x, 6, near == 7 ? 8 : 1, near == 7 ? 7 : 1);
+        }
+    }
+
+    private static void meanIncrease() {
+        Edge.says("Promise 25", "The value is the mean increase of this worth when the gateway comes.");
+        // worth: {0} 3, {1} 2, {0, 1} 4, and one more with gateway 2, which is alone
+        MeshParents x = Check.withMesh("M0g0g0g0rrk03001k04001k14001");
+        shareIs("3 and 4 - 2", x, 0, 5, 2);
+        shareIs("2 and 4 - 3", x, 1, 3, 2);
+        shareIs("1 each time", x, 2, 1, 1);
+        x.turn(0);
+        shareIs("2 and 3 - 2", x, 0, 3, 2);
+        x.turn(2);
+        shareIs("2 each time", x, 0, 2, 1);
+    }
+
+    private static void upperOrNot() {
+        for (String promise : new String[] {"Promise 25", "Promise 26"}) {
+            Edge.says(promise, "`upper`: true for the numerator; false for the denominator");
+            MeshParents x = Check.withMesh("M0g0g0rk02001k12001");
+            Check.due("share(0, true)", x.share(0, true), 3);
+            Check.due("share(0, false)", x.share(0, false), 2);
+            Check.due("chance(1, true)", x.chance(1, true), 99);
+            Check.due("chance(1, false)", x.chance(1, false), 100);
         }
     }
 

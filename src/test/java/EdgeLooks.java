@@ -10,6 +10,7 @@ final class EdgeLooks {
         nodeAnswers();
         linkAll();
         linkAnswers();
+        fromAndTo();
         priceAnswers();
         safeAnswers();
     }
@@ -159,6 +160,21 @@ final class EdgeLooks {
         for (int[] pair : pairs) {
             Edge.same(EdgeLooks::five, name + "(" + pair[0] + ", " + pair[1] + ")",
                 x -> ask.of(x, pair[0], pair[1]), pair[2]);
+        }
+    }
+
+    private static void fromAndTo() {
+        for (String promise : new String[] {"Promise 9", "Promise 10"}) {
+            Edge.says(promise, "`from`: the node that makes the offer - `to`: the other node");
+            // two routers with a link between them: the one has the cost 3, the other 7
+            MeshParents x = Check.withMesh("M0g0rrg0k01003k12001k23007");
+            x.turn(1);
+            x.round(1);
+            x.turn(1);
+            Check.due("price(1, 2)", x.price(1, 2), 4);
+            Check.due("price(2, 1)", x.price(2, 1), 8);
+            Check.due("safe(1, 2)", x.safe(1, 2), 1);
+            Check.due("safe(2, 1)", x.safe(2, 1), 0);
         }
     }
 

@@ -3,10 +3,10 @@ import java.util.List;
 /** The promises 17 to 21, sentence by sentence. */
 final class EdgePredictions {
     private static final String LINE = "M0g0rrl20g0k01001k12001k23001";
-    /** Found by a long search: no other mesh took more rounds until its parents stayed the same. */
+    /** Found by long searches: no other mesh took more rounds until its parents stayed the same. */
     private static final String SLOW = "M7rg1l91rrrl95rk53784k67013k25897k70507k54195k03373k43857k27281k15627";
     /** The same for the way of a message. */
-    private static final String FAR = "M2l98g5rrrrrrk21523k71223k70826k06686k56076k74866k24411k35799k32201";
+    private static final String FAR = "M3g8rrrrrl95rk17139k60584k26127k53826k32735k16962k10827k45498k74839";
 
     private EdgePredictions() {
     }
@@ -215,18 +215,16 @@ final class EdgePredictions {
 
     private static MeshParents far() {
         MeshParents x = Check.withMesh(FAR);
-        int[][] changes = {{0, 17}, {4, 6}, {1, 7}, {2, 2, 0, 5}, {2, 7, 0, 9}, {1, 1}, {0, 7}, {1, 1}, {4, 3}, {4, 2},
-            {0, 17}, {1, 0}, {1, 5}, {3, 7, 9}, {0, 35}, {1, 5}, {1, 7}, {2, 7, 1, 7}, {4, 1}, {1, 2}, {4, 9}, {3, 6, 8},
-            {4, 1}, {2, 8, 1, 6}, {2, 5, 1, 9}};
-        for (int[] change : changes) {
-            switch (change[0]) {
-                case 0: x.round(change[1]); break;
-                case 1: x.turn(change[1]); break;
-                case 2: x.lose(change[1], change[2] == 1, change[3]); break;
-                case 3: x.offset(change[1], change[2]); break;
-                default: x.margin(change[1]);
-            }
-        }
+        x.lose(6, false, 3);
+        x.round(26);
+        x.turn(6);
+        x.offset(5, 3);
+        x.offset(1, 2);
+        x.round(19);
+        x.turn(6);
+        x.offset(0, 1);
+        x.turn(1);
+        x.turn(5);
         return x;
     }
 
@@ -244,8 +242,8 @@ final class EdgePredictions {
         sleepy.round(9);
         Check.due("word(1) of a leaf that was awake just now", sleepy.word(1), 9);
         // no longer way was found
-        Check.due("word(0) by hand", wordByHand(far(), 0), 29);
-        Check.due("word(0)", far().word(0), 29);
+        Check.due("word(6) by hand", wordByHand(far(), 6), 30);
+        Check.due("word(6)", far().word(6), 30);
     }
 
     private static void evenAfterTwenty() {
