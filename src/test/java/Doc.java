@@ -46,9 +46,14 @@ final class Doc {
         quoted.put(place, new boolean[places.get(place).length()]);
     }
 
+    /** The words of a place, in one line; empty if there is no such place. */
+    String text(String place) {
+        return places.getOrDefault(place, "");
+    }
+
     /** Whether these words stand there; they count as quoted from then on. */
     boolean quote(String place, String words) {
-        String text = places.getOrDefault(place, "");
+        String text = text(place);
         int from = text.indexOf(words);
         for (int at = from; at >= 0 && !words.isEmpty(); at = text.indexOf(words, at + 1)) {
             java.util.Arrays.fill(quoted.get(place), at, at + words.length(), true);

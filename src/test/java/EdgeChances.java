@@ -91,6 +91,13 @@ final class EdgeChances {
         shareIs("2 and 3 - 2", x, 0, 3, 2);
         x.turn(2);
         shareIs("2 each time", x, 0, 2, 1);
+        // leaf 5 prefers gateway 0, and without it asks at once: then the leaves 6 and 7 don't stumble over the new loss.
+        // worth: {0} 2, {1} 7, {0, 1} 6
+        MeshParents harm = Check.withMesh("M0g0g0rrrl10l92l92k12005k23005k34005k46001k47001k05001k45001");
+        harm.round(18);
+        harm.lose(0, false, 1);
+        shareIs("2 and 6 - 7", harm, 0, 1, 2);
+        shareIs("7 and 6 - 2", harm, 1, 11, 2);
     }
 
     private static void upperOrNot() {

@@ -1,12 +1,25 @@
+import java.nio.file.Path;
+import java.util.List;
+
 /** The examples 1 to 4 of the document, each on a new object, and the constants. */
 final class ExamplesTest {
-    public static void main(String[] args) {
+    public static void main(String[] args) throws Exception {
         constants();
         example1();
         example2();
         example3();
         example4();
+        asTheDocumentTells(new Doc(Path.of(args[1])), Path.of(args[3]));
         Check.end();
+    }
+
+    /** The calls as they stand in the document, so that none is left out or told otherwise here. */
+    private static void asTheDocumentTells(Doc doc, Path folder) throws Exception {
+        for (int number = 1; number <= 4; number++) {
+            List<String> lines = Shown.example(doc, number);
+            Check.holds("example " + number + " has " + lines.size() + " lines", lines.size() > 10);
+            Shown.run("Example" + number, lines, folder);
+        }
     }
 
     private static void writeEach(MeshParents x, int... letters) {
